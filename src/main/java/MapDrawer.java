@@ -20,7 +20,7 @@ public final class MapDrawer {
 
     private final Story story = new Story();
     private final Parts parts = new Parts();
-    private final Places places = new Places();
+    private final Places places = new Places(story);
     private final Planner planner = new Planner(story, parts, places);
     private final Walker walker = new Walker(story);
     private final Sheet sheet = new Sheet(story, places);
@@ -110,12 +110,12 @@ public final class MapDrawer {
             return BAD;
         }
         planner.drawAll(steps);
-        return places.bentLinks(story);
+        return places.bentLinks();
     }
 
     public int grow() {
         planner.growAll();
-        return places.bentLinks(story);
+        return places.bentLinks();
     }
 
     public int least(int part) {
@@ -144,18 +144,18 @@ public final class MapDrawer {
         if (!story.isLink(link)) {
             return BAD;
         }
-        if (!places.hasBothEnds(story, link)) {
+        if (!places.hasBothEnds(link)) {
             return NOT;
         }
         if (story.isLoop(link)) {
             return 0;
         }
-        int d = places.straightLength(story, link);
+        int d = places.straightLength(link);
         return d > 0 ? d : NONE;
     }
 
     public int cost() {
-        return places.costBelow(story, Integer.MAX_VALUE);
+        return places.costBelow(Integer.MAX_VALUE);
     }
 
     public int far(int from, int to) {
@@ -369,13 +369,18 @@ public final class MapDrawer {
         private static final int BENT_COST = 10;
         private static final int FARTHEST = 60;
 
+        private final Story story;
         private final int[] x = new int[MOST_ROOMS];
         private final int[] y = new int[MOST_ROOMS];
         private final int[] level = new int[MOST_ROOMS];
         private final boolean[] placed = new boolean[MOST_ROOMS];
 
+        Places(Story story) {
+            this.story = story;
+        }
+
         void clear() {
-            for (int r = 0; r < MOST_ROOMS; r++) {
+            for (int r = 0; r < story.roomCount; r++) {
                 placed[r] = false;
             }
         }
@@ -392,7 +397,7 @@ public final class MapDrawer {
         }
 
         boolean isFree(int atX, int atY, int atLevel) {
-            for (int r = 0; r < MOST_ROOMS; r++) {
+            for (int r = 0; r < story.roomCount; r++) {
                 if (placed[r] && x[r] == atX && y[r] == atY && level[r] == atLevel) {
                     return false;
                 }
@@ -400,16 +405,16 @@ public final class MapDrawer {
             return true;
         }
 
-        boolean hasBothEnds(Story story, int l) {
+        boolean hasBothEnds(int l) {
             return placed[story.from[l]] && placed[story.to[l]];
         }
 
         /** The length of a straight link; 0: it is bent, or a loop. Both its rooms are placed. */
-        int straightLength(Story story, int l) {
+        int straightLength(int l) {
             int start = story.from[l];
             int way = story.direction[l];
             int d = distance(start, way, story.to[l]);
-            for (int r = 0; r < MOST_ROOMS && d > 1; r++) {
+            for (int r = 0; r < story.roomCount && d > 1; r++) {
                 int nearer = placed[r] ? distance(start, way, r) : 0;
                 if (nearer > 0 && nearer < d) {
                     return 0;
@@ -422,21 +427,21 @@ public final class MapDrawer {
          * The cost of the links between placed rooms; if it is not below the limit, some
          * number that isn't either, as most trials are given up long before their last link.
          */
-        int costBelow(Story story, int limit) {
+        int costBelow(int limit) {
             int sum = 0;
             for (int l = 0; l < story.linkCount && sum < limit; l++) {
-                if (isWeighed(story, l)) {
-                    int d = straightLength(story, l);
+                if (isWeighed(l)) {
+                    int d = straightLength(l);
                     sum += d > 0 ? d - 1 : BENT_COST;
                 }
             }
             return sum;
         }
 
-        int bentLinks(Story story) {
+        int bentLinks() {
             int count = 0;
             for (int l = 0; l < story.linkCount; l++) {
-                if (isWeighed(story, l) && straightLength(story, l) == 0) {
+                if (isWeighed(l) && straightLength(l) == 0) {
                     count++;
                 }
             }
@@ -445,7 +450,7 @@ public final class MapDrawer {
 
         int count() {
             int count = 0;
-            for (int r = 0; r < MOST_ROOMS; r++) {
+            for (int r = 0; r < story.roomCount; r++) {
                 count += placed[r] ? 1 : 0;
             }
             return count;
@@ -454,7 +459,7 @@ public final class MapDrawer {
         /** The least of x, y or level over the placed rooms; 0, if there is none. */
         int lowest(int[] values) {
             int found = NONE;
-            for (int r = 0; r < MOST_ROOMS; r++) {
+            for (int r = 0; r < story.roomCount; r++) {
                 if (placed[r] && (found < 0 || values[r] < values[found])) {
                     found = r;
                 }
@@ -465,7 +470,7 @@ public final class MapDrawer {
         /** The greatest of x, y or level over the placed rooms; 0, if there is none. */
         int highest(int[] values) {
             int found = NONE;
-            for (int r = 0; r < MOST_ROOMS; r++) {
+            for (int r = 0; r < story.roomCount; r++) {
                 if (placed[r] && (found < 0 || values[r] > values[found])) {
                     found = r;
                 }
@@ -477,8 +482,8 @@ public final class MapDrawer {
             return count() == 0 ? 0 : highest(values) - lowest(values) + 1;
         }
 
-        private boolean isWeighed(Story story, int l) {
-            return !story.isLoop(l) && hasBothEnds(story, l);
+        private boolean isWeighed(int l) {
+            return !story.isLoop(l) && hasBothEnds(l);
         }
 
         /** At which distance a room lies by a direction from another one; 0: at none. */
@@ -627,7 +632,7 @@ public final class MapDrawer {
         private final Story story;
         private final Parts parts;
         private final Places places;
-        private final Places trial = new Places();
+        private final Places trial;
         private final Ties ties = new Ties();
         private final Chances chances;
         /** The rooms in the order in which they get places: it depends on links alone, not on places. */
@@ -645,6 +650,7 @@ public final class MapDrawer {
             this.story = story;
             this.parts = parts;
             this.places = places;
+            this.trial = new Places(story);
             this.chances = new Chances(story, ties);
         }
 
@@ -757,7 +763,7 @@ public final class MapDrawer {
         }
 
         private void weighTrial() {
-            int weight = trial.costBelow(story, bestCost);
+            int weight = trial.costBelow(bestCost);
             if (weight < bestCost) {
                 bestCost = weight;
                 keepTrial();
@@ -923,7 +929,7 @@ public final class MapDrawer {
 
         private int lineAt(int level, int column, int row) {
             for (int l = 0; l < story.linkCount; l++) {
-                boolean flat = story.direction[l] < UPWARDS && places.hasBothEnds(story, l);
+                boolean flat = story.direction[l] < UPWARDS && places.hasBothEnds(l);
                 if (flat && places.level[story.from[l]] == level && isOnLine(l, column, row)) {
                     return LINE[story.direction[l]];
                 }
@@ -932,7 +938,7 @@ public final class MapDrawer {
         }
 
         private boolean isOnLine(int l, int column, int row) {
-            int d = places.straightLength(story, l);
+            int d = places.straightLength(l);
             if (d == 0) {
                 return false;
             }
