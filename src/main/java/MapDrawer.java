@@ -155,7 +155,7 @@ public final class MapDrawer {
     }
 
     public int cost() {
-        return places.costBelow(Integer.MAX_VALUE);
+        return places.costBelow(Places.ABOVE_ALL_COSTS);
     }
 
     public int far(int from, int to) {
@@ -368,6 +368,8 @@ public final class MapDrawer {
     private static final class Places {
         private static final int BENT_COST = 10;
         private static final int FARTHEST = 60;
+        /** No link, straight or bent, costs as much as FARTHEST. */
+        private static final int ABOVE_ALL_COSTS = MOST_LINKS * FARTHEST;
 
         private final Story story;
         private final int[] x = new int[MOST_ROOMS];
@@ -703,7 +705,7 @@ public final class MapDrawer {
             trial.clear();
             made = 0;
             stopped = false;
-            bestCost = Integer.MAX_VALUE;
+            bestCost = Places.ABOVE_ALL_COSTS;
             chances.lookAtOrigin();
             tryHere(0);
         }

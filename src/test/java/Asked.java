@@ -9,7 +9,7 @@ final class Asked {
     /** How many kinds of answers view() has. */
     static final int VIEWS = 4;
 
-    private static final int MOST_CALLS = 512;
+    static final int MOST_CALLS = 512;
     private static final int MOST_SIGNS = 300;
     private static String latest = "";
 
@@ -19,6 +19,11 @@ final class Asked {
     /** The latest call of all objects, as a text. */
     static String latest() {
         return latest;
+    }
+
+    /** How many calls may still be made. */
+    int callsLeft() {
+        return MOST_CALLS - calls;
     }
 
     int room(int width, int region) {

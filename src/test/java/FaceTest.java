@@ -7,6 +7,7 @@ import java.nio.file.Files;
 import java.nio.file.Path;
 import java.util.Arrays;
 import java.util.List;
+import java.util.Set;
 import java.util.TreeSet;
 import java.util.regex.Matcher;
 import java.util.regex.Pattern;
@@ -17,6 +18,10 @@ public final class FaceTest {
             "play(int,int,int)", "mark(int,int)", "alike(int)", "link(int,int)", "out(int,int)", "part(int)",
             "draw(int)", "grow()", "least(int)", "steps()", "place(int,int)", "straight(int)", "cost()",
             "far(int,int)", "step(int,int,int)", "sign(int,int,int)", "told(int)");
+
+    /** Of what LANGUAGE.md lists, that which the class uses. */
+    private static final List<String> LIBRARY = List.of("Math.abs", "Math.max", "Math.min");
+    private static final List<String> NUMBERS = List.of("int", "boolean");
 
     private static final Check check = new Check("FaceTest");
 
@@ -84,6 +89,25 @@ public final class FaceTest {
         for (String word : never) {
             Matcher found = Pattern.compile(word).matcher(code);
             check.due("the source has " + word, found.find() ? 1 : 0, 0);
+        }
+        libraryIsOnTheList(code);
+    }
+
+    /** Rule 4 lists what may be used of the library: Integer's functions, say, but not its constants. */
+    private static void libraryIsOnTheList(String code) {
+        Set<String> own = new TreeSet<>();
+        for (Class<?> c : MapDrawer.class.getDeclaredClasses()) {
+            own.add(c.getSimpleName());
+        }
+        Matcher asked = Pattern.compile("\\b([A-Z][A-Za-z]*)\\s*\\.\\s*(\\w+)").matcher(code);
+        while (asked.find()) {
+            String name = asked.group(1) + "." + asked.group(2);
+            check.due(name, own.contains(asked.group(1)) || LIBRARY.contains(name) ? 1 : 0, 1);
+        }
+        Matcher made = Pattern.compile("\\bnew\\s+(\\w+)").matcher(code);
+        while (made.find()) {
+            String name = made.group(1);
+            check.due("new " + name, own.contains(name) || NUMBERS.contains(name) ? 1 : 0, 1);
         }
     }
 
